@@ -126,6 +126,7 @@ public final class PromisesTest {
         due("a wall on a hedge", Check.lay(park, "park 2 2;hedge 1 0 yew 9;wall 1 0;"), 3);
         due("it is a wall", park.cell(1, 0), 4);
         due("not thick", park.cell(1, 1), 0);
+        nothingIsLeft();
         StringBuilder whole = new StringBuilder("park 2 2;hedge 0 0 box 1;grows 1");
         while (whole.length() < 895) {
             whole.append("+1");
@@ -138,6 +139,24 @@ public final class PromisesTest {
         due("so long a text", whole.length(), 900);
         due("the longest law", Check.lay(park, whole.toString()), 3);
         due("it doesn't hold", park.nights(1), 0);
+    }
+
+    private static void nothingIsLeft() {
+        HedgePark park = Check.of(PARTED);
+        Check.lay(park, COMMON);
+        due("errands", park.walker(0, 3), 2);
+        due("no errands", park.walker(1, 3), 0);
+        Check.lay(park, "park 2 2;hedge 0 1 yew 1;grows 1=1;winter 2;");
+        due("hedges", park.hedges(), 4);
+        due("walls", park.count(11), 0);
+        due("walkers", park.count(3), 0);
+        Check.lay(park, "park 4 3;hedge 2 2 box 1;walker 0 0;");
+        due("hedges", park.hedges(), 1 << 10);
+        due("walls", park.count(11), 0);
+        due("no law", park.nights(2), 0);
+        due("no winter", park.count(10), 0);
+        due("not free", park.walker(0, 2), 0);
+        due("age", park.walker(0, 1), 0);
     }
 
     private static void fault() {
@@ -183,6 +202,7 @@ public final class PromisesTest {
         faulty("park 2 2;walker 0 0 age;", 2, 23);
         faulty("park 2 2;hedge 0 0 oak 1;", 2, 19);
         faulty("park 2 2;hedge 0 0 box;", 2, 22);
+        faulty("park 2 2;hedge 0 0 5;", 2, 19);
         faulty("park 2 2;grows ;", 2, 15);
         faulty("park 2 2;grows 1;", 2, 16);
         faulty("park 2 2;grows 1=1 2;", 2, 19);
@@ -772,6 +792,8 @@ public final class PromisesTest {
         fails("what", ARGUMENT, () -> park.meet(0, 1, true, -1));
         fails("nobody", NO_SUCH, () -> park.meet(0, 2, true, 2));
         fails("nobody", NO_SUCH, () -> park.meet(2, 2, true, 2));
+        fails("nobody", NO_SUCH, () -> park.meet(2, 0, true, 0));
+        fails("nobody", NO_SUCH, () -> park.meet(-1, 0, true, 0));
     }
 
     private static void first() {
@@ -808,9 +830,9 @@ public final class PromisesTest {
         due("four", open.shutOff(0, 28), 4);
         due("three", open.shutOff(1, 28), 3);
         due("a corner", open.shutOff(0, 35), 2);
-        // the first way found takes the middle and has to give it back for the second one
-        HedgePark back = Check.of("park 4 3;wall 0 0;wall 3 2;walker 0 1;");
-        due("given back", back.shutOff(0, 7), 2);
+        // ways that were found first have to give cells back for the third one
+        HedgePark back = Check.of("park 6 4;wall 4 2;wall 2 2;walker 3 0;");
+        due("given back", back.shutOff(0, 13), 3);
         fails("shutOff(2, 0)", NO_SUCH, () -> park.shutOff(2, 0));
         fails("shutOff(0, 12)", NO_SUCH, () -> park.shutOff(0, 12));
     }
@@ -895,6 +917,7 @@ public final class PromisesTest {
         due("walks(0, 2, 5)", park.walks(0, 2, 5), 1);
         due("walks(1, 0, 2)", park.walks(1, 0, 2), 1);
         due("a wall", park.walks(0, 5, 2), 0);
+        due("one step of 30", Check.of("park 2 2;wall 0 1;hedge 1 0 box 29;walker 0 0;").walks(0, 1, 30), 1);
         // in a park of 2 by 2 each step has two ways: half of all 2^30 end where they began
         due("many", Check.of("park 2 2;walker 0 0;").walks(0, 0, 30), 1L << 29);
         fails("t", ARGUMENT, () -> park.walks(0, 0, -1));
@@ -1004,11 +1027,12 @@ public final class PromisesTest {
         due("as many as it has places", park.copy(0), 2);
         park.tray(1, 3, 9);
         for (int i = 0; i < 9; i++) {
-            park.write(1, i, 1);
+            park.write(1, i, -2);
         }
         due("all cells", park.copy(1), 4);
-        // 3: the walker stays; 0: through the hedge for 1 and 4; the places behind are 1 still: back for 1
-        due("the rest stays", park.judge(1, 2), 6);
+        // 3: the walker stays; 0: through the hedge for 1 and 4; the places behind are -2 still, and can't be
+        due("the rest stays", park.judge(1, 0), 4);
+        due("time", park.judge(1, 2), 5);
         park.tray(2, 0, 0);
         due("no places", park.copy(2), 0);
         fails("missing", STATE, () -> park.copy(3));
