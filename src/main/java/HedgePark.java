@@ -1714,7 +1714,7 @@ public final class HedgePark {
             // Neither node of the start is ever entered again.
             source[2 * from] = start;
             visit(start, start);
-            for (int i = 0; i < queued && source[2 * to] == NONE; i++) {
+            for (int i = 0; i < queue.length && i < queued && source[2 * to] == NONE; i++) {
                 int node = queue[i];
                 if (node % 2 == 1) {
                     leave(plan, open, node);
@@ -2031,7 +2031,8 @@ public final class HedgePark {
         }
 
         int goTo(Plan plan, Scene scene, int w, int k) {
-            ways.spreadOf(plan, scene, w);
+            ways.price(plan, scene, plan.isFree(w));
+            ways.spread(plan, scene.at[w]);
             int cost = ways.far[k];
             scene.time += cost;
             scene.age[w] += cost;
