@@ -8,18 +8,23 @@ final class Check {
     }
 
     private int wrong;
+    private String heading = "";
+
+    /** What is told ahead of all that isn't as due, till another heading comes. */
+    void under(String words) {
+        heading = words;
+    }
 
     void due(String what, long got, long want) {
         if (got != want) {
-            wrong++;
-            System.out.println(what + " answered " + got + ", due is " + want);
+            due(what, Long.toString(got), Long.toString(want));
         }
     }
 
     void due(String what, String got, String want) {
         if (!got.equals(want)) {
             wrong++;
-            System.out.println(what + " answered " + got + ", due is " + want);
+            System.out.println(heading + what + " answered " + got + ", due is " + want);
         }
     }
 
