@@ -168,6 +168,19 @@ public final class PromisesEdgesTest {
             park.nights(2);
             due("no winter, no law", park.count(10), 0);
         });
+        test(3, "no DEEDS: how many LINES", () -> {
+            HedgePark park = Check.of("park 6 6;wall 5 5;hedge 0 0 box 9;walker 1 0 free age 9;walker 2 0 free;errand 0 0 0 1;"
+                    + "errand 1 0 0 1;grows 1=1;winter 2;");
+            due("a lesser park", Check.lay(park, "park 2 2;hedge 0 0 box 1;walker 1 1;walker 0 0;"), 4);
+            due("not free", park.walker(0, 2) + park.walker(1, 2), 0);
+            due("no errands", park.walker(0, 3) + park.walker(1, 3), 0);
+            due("no age", park.walker(0, 1), 0);
+            due("no law", park.nights(2), 0);
+            due("no winter", park.count(10), 0);
+            due("no walls", park.count(11), 0);
+            due("one hedge", park.hedges(), 1);
+            due("as thick", park.thickness(), 1);
+        });
         test(3, "how many LINES (park, too)", () -> {
             due("one", Check.lay(new HedgePark(), "park 2 2;"), 1);
             due("two", Check.lay(new HedgePark(), "park 2 2;winter 2;"), 2);
@@ -267,6 +280,15 @@ public final class PromisesEdgesTest {
             HedgePark full = Check.of(OPEN);
             due("the last of 36", full.cell(35, 4), 2);
             refused("36", full, NO_SUCH, () -> full.cell(36, 0));
+        });
+        test(6, "what 0: its CELL, 1: AGE, 2: 1 if it is free, else 0", () -> {
+            HedgePark park = Check.of("park 6 6;walker 0 0;walker 5 5 free;walker 5 0 age 999;walker 0 5 free age 0;");
+            int[][] all = {{0, 0, 0}, {35, 0, 1}, {5, 999, 0}, {30, 0, 1}};
+            for (int w = 0; w < 4; w++) {
+                for (int what = 0; what < 3; what++) {
+                    due("walker(" + w + ", " + what + ")", park.walker(w, what), all[w][what]);
+                }
+            }
         });
         test(6, "3: how many ERRANDS, 10 + i: the CELL of its i-th, 20 + i: by which TIME (NONE: not so many).", () -> {
             HedgePark park = Check.of("park 6 6;walker 0 0;walker 1 0;walker 2 0;errand 1 5 5 999;errand 2 0 0 0;errand 2 1 0 1;"
@@ -558,6 +580,8 @@ public final class PromisesEdgesTest {
             due("9 of 10", park.within(0, 35, 9), NONE);
             due("10 of 10", park.within(0, 35, 10), 10);
             due("99", park.within(0, 35, 99), 10);
+            due("to the first cell", park.within(1, 0, 10), 10);
+            due("not so few", park.within(1, 0, 9), NONE);
             due("no way", Check.of(PARTED).within(0, 2, 99), NONE);
             HedgePark common = Check.of(COMMON);
             due("a wall", common.within(0, 5, 99), NONE);
@@ -586,6 +610,10 @@ public final class PromisesEdgesTest {
             due("one", park.cleared(0, 7, 1), 6);
             due("two", park.cleared(0, 7, 2), 4);
             due("36", park.cleared(0, 7, 36), 4);
+            HedgePark ends = Check.of("park 2 2;hedge 0 0 beech 9;hedge 1 1 yew 9;wall 0 1;walker 1 0;");
+            due("the first cell", ends.cleared(0, 0, 1), 1);
+            due("the last cell", ends.cleared(0, 3, 1), 1);
+            due("the last cell, none", ends.cleared(0, 3, 0), 19);
             due("a wall", park.cleared(0, 5, 36), NONE);
             due("no way", Check.of(PARTED).cleared(0, 2, 36), NONE);
             needsOne(park, ARGUMENT, m -> park.cleared(0, 7, m), LEAST, -1, 37, MOST);
@@ -680,6 +708,8 @@ public final class PromisesEdgesTest {
             for (int i = 0; i < 4; i++) {
                 due("backwards", four.bestOrder(0, 10 + i), 3 - i);
             }
+            due("the round is in order as told still", four.round(0, 2), 3);
+            due("its cost", four.round(0, 0), 7);
             needsOne(four, ARGUMENT, what -> four.bestOrder(0, what), LEAST, -1, 2, 3, 9, 14, 20, MOST);
             needsOne(four, NO_SUCH, w -> four.bestOrder(w, 2), LEAST, -1, 1, MOST);
         });
@@ -753,6 +783,8 @@ public final class PromisesEdgesTest {
             due("none", park.needed(0, 3), 0);
             due("where it stands", park.needed(0, 0), 0);
             due("above bit 31", Check.of("park 6 6;wall 5 4;walker 0 0;").needed(0, 35), 1L << 34);
+            due("the first cell", Check.of("park 2 2;wall 1 1;walker 1 0;").needed(0, 2), 1);
+            due("the last cell", Check.of("park 2 2;wall 0 0;walker 1 0;").needed(0, 2), 1 << 3);
             due("not what the others need", Check.of("park 6 6;wall 5 4;walker 0 0;").needed(0, 33), 0);
             needsWalkerAndCell(park, park::needed);
         });
@@ -766,6 +798,8 @@ public final class PromisesEdgesTest {
             due("none left", most.dearest(0, 3), 2);
             HedgePark two = Check.of("park 5 2;wall 1 1;wall 3 1;walker 0 0;");
             due("of several the first", two.dearest(0, 4), 1);
+            due("the first cell", Check.of("park 2 2;wall 1 1;walker 1 0;").dearest(0, 2), 0);
+            due("the last cell", Check.of("park 2 2;wall 0 0;walker 1 0;").dearest(0, 2), 3);
             HedgePark one = Check.of("park 3 2;walker 0 0;");
             due("the only one", one.dearest(0, 2), 1);
             // without 1 or without 2 one goes round for 5
@@ -911,6 +945,7 @@ public final class PromisesEdgesTest {
     private static void trays() {
         test(42, "A TRAY is a row of so many 0s. NoSuchElementException: no such TRAY; IllegalArgumentException: no such sort, or not so many.", () -> {
             HedgePark park = Check.of("park 2 2;walker 1 1;");
+            park.walk(0, 2);
             for (int t = 0; t < 4; t++) {
                 for (int sort = 0; sort < 4; sort++) {
                     park.tray(t, sort, 40);
@@ -918,7 +953,7 @@ public final class PromisesEdgesTest {
                         park.write(t, i, -1);
                     }
                     park.tray(t, sort, 40);
-                    // zeros are walks of walker 0 to cell 0, nights would set the time back
+                    // zeros are walks of walker 0 to cell 0, a night would set the time back
                     due("forty 0s", park.judge(t, 0), NONE);
                     due("no nights", park.judge(t, 2), 2);
                     park.tray(t, sort, 0);
@@ -1024,16 +1059,33 @@ public final class PromisesEdgesTest {
             park.image(0);
             park.undo(10);
             Check.lay(park, OPEN);
-            park.walk(0, 35);
+            for (int i = 0; i < 11; i++) {
+                park.walk(0, 35 - i);
+            }
             park.restore(0);
             CHECK.due("as it was", Look.at(park), look);
             due("its deeds", park.undo(10), 0);
             due("its night", park.count(4), 3);
+            due("its hedges", park.thickness(), 8);
             park.restore(0);
             CHECK.due("as often as one likes", Look.at(park), look);
             park.restore(2);
             due("nothing was there", park.count(0), 0);
             refused("no cells", park, NO_SUCH, () -> park.cell(0, 0));
+        });
+        test(46, "All is as in an IMAGE.", () -> {
+            HedgePark park = Check.of(COMMON);
+            for (int i = 0; i < 13; i++) {
+                park.nights(1);
+            }
+            String back = Look.back(park);
+            park.image(0);
+            for (int i = 0; i < 13; i++) {
+                park.plant(11, 1);
+                park.clip(11, 1);
+            }
+            park.restore(0);
+            CHECK.due("each deed can be undone as it could then", Look.back(park), back);
         });
         test(47, "0 LINES, 1 WIDE, 2 HIGH, 3 WALKERS, 4 NIGHT, 5 TIME, 6 CLIPPINGS, 7 hedges, 8 DEEDS that can be UNDONE, 9 bytes on the tape, 10 1 on a WINTER's NIGHT, else 0, 11 walls", () -> {
             HedgePark park = Check.of(COMMON);

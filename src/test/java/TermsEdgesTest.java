@@ -126,6 +126,43 @@ public final class TermsEdgesTest {
             faulty("park 2 2;grows box=1;", 2, 15);
             faulty("park 2 2;grows nights=1;", 2, 15);
         });
+        test("UNIT { and UNIT }; UNIT: not UNIT", () -> {
+            grows("1=1", true);
+            grows("1=2", false);
+            grows("1<1", false);
+            grows("1<2", true);
+            grows("1>1", false);
+            grows("2>1", true);
+            for (String wrong : new String[] {"1=2", "2<1", "1>2"}) {
+                grows(wrong + " and 1=1", false);
+                grows("1=1 and " + wrong, false);
+                grows(wrong + " or 1=2", false);
+                grows(wrong + " or 1=1", true);
+                grows("not " + wrong, true);
+            }
+            grows("not 1=1", false);
+            grows("not 1=2", true);
+            grows("not not 1=1", true);
+            grows("not 1=2 and 1=2", false);
+            grows("not[1=2 and 1=2]", true);
+            grows("1=1 or 1=1 and 1=2", true);
+            grows("[1=1 or 1=1]and 1=2", false);
+            grows("1=2 and 1=2 or 1=1", true);
+            grows("1=1 or 1=1", true);
+            grows("1=2 or 1=2", false);
+            grows("1=1 and 1=1", true);
+            grows("not not not not not not 1=1", true);
+            grows("[not[not[(1+1)*(1)=2]]]", true);
+        });
+        test("SUM: TERM { + TERM | - TERM }; TERM: ATOM { * ATOM }", () -> {
+            grows("7-3-2=2", true);
+            grows("7-(3-2)=6", true);
+            grows("2+3*4=14", true);
+            grows("(2+3)*4=20", true);
+            grows("2*3*4-1=23", true);
+            grows("0-1<0", true);
+            grows("5-6+1=0", true);
+        });
         test("At most six of not [ ( within one another.", () -> {
             fine("park 2 2;grows " + times(6, "not ") + "1=1;", 2);
             faulty("park 2 2;grows " + times(7, "not ") + "1=1;", 4, 39);
@@ -352,6 +389,9 @@ public final class TermsEdgesTest {
         test("park must be told first, and once;", () -> {
             faulty("wall 0 0;park 2 2;", 2, 0);
             faulty("winter 2;", 2, 0);
+            faulty("2 2;", 2, 0);
+            faulty("2", 2, 0);
+            faulty("parks 2 2;", 2, 0);
             faulty("park 2 2;park 2 2;", 2, 9);
             faulty("park 2 2;walker 0 0;park 2 2;", 2, 20);
         });
@@ -499,6 +539,25 @@ public final class TermsEdgesTest {
             HedgePark once = Check.of("park 2 2;hedge 0 0 box 1;hedge 1 1 box 2;grows thick=1 or thick=2 and kind=1 and night<1;");
             due("both", once.nights(1), 2);
             due("neither", once.nights(1), 0);
+        });
+        test("all at once: x, y; kind: 1 to 3; thick;", () -> {
+            HedgePark x = Check.of("park 6 2;hedge 0 0 box 1;hedge 5 0 box 1;hedge 5 1 box 1;hedge 1 0 box 1;grows x=5;");
+            due("x", x.cell(0, 3) + 2 * x.cell(5, 3) + 4 * x.cell(11, 3) + 8 * x.cell(1, 3), 6);
+            HedgePark y = Check.of("park 2 6;hedge 0 0 box 1;hedge 0 5 box 1;hedge 1 5 box 1;hedge 1 0 box 1;grows y=5;");
+            due("y", y.cell(0, 3) + 2 * y.cell(10, 3) + 4 * y.cell(11, 3) + 8 * y.cell(1, 3), 6);
+            String[] kinds = {"box", "yew", "beech"};
+            for (int kind = 1; kind <= 3; kind++) {
+                for (int told = 0; told <= 4; told++) {
+                    HedgePark park = Check.of("park 2 2;hedge 1 1 " + kinds[kind - 1] + " 60;hedge 1 0 "
+                            + kinds[kind - 1] + " 59;grows kind=" + told + ";");
+                    due("kind", park.cell(1, 3), told == kind ? 1 : 0);
+                    due("60 thick", park.cell(3, 3), 0);
+                }
+            }
+            HedgePark thick = Check.of("park 2 2;hedge 0 0 box 1;hedge 1 0 box 2;hedge 0 1 yew 1;hedge 1 1 yew 59;grows thick*kind=2;");
+            due("thick", thick.cell(0, 3) + 2 * thick.cell(1, 3) + 4 * thick.cell(2, 3) + 8 * thick.cell(3, 3), 6);
+            due("two", thick.nights(1), 2);
+            due("none", thick.nights(1), 0);
         });
         test("near: how many of the CELLS beside are hedges", () -> {
             HedgePark park = Check.of("park 3 3;hedge 0 0 box 1;hedge 1 0 box 1;hedge 2 0 box 1;hedge 0 1 box 1;"
