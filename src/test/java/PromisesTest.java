@@ -833,6 +833,10 @@ public final class PromisesTest {
         // ways that were found first have to give cells back for the third one
         HedgePark back = Check.of("park 6 4;wall 4 2;wall 2 2;walker 3 0;");
         due("given back", back.shutOff(0, 13), 3);
+        // what was given back may be taken once more
+        due("taken again", Check.of("park 5 4;wall 1 2;wall 3 3;walker 1 1;").shutOff(0, 13), 3);
+        HedgePark four = Check.of("park 6 6;wall 2 0;wall 0 1;wall 0 3;wall 3 3;wall 0 5;walker 3 1;");
+        due("taken again by the fourth", four.shutOff(0, 28), 4);
         fails("shutOff(2, 0)", NO_SUCH, () -> park.shutOff(2, 0));
         fails("shutOff(0, 12)", NO_SUCH, () -> park.shutOff(0, 12));
     }
