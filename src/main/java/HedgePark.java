@@ -1777,6 +1777,9 @@ public final class HedgePark {
             int node = 2 * to;
             for (int i = 0; i < queue.length && node != 2 * from + 1; i++) {
                 int by = source[node];
+                if (by == NONE) {
+                    return;
+                }
                 int c = by / 2;
                 int n = node / 2;
                 if (c == n) {

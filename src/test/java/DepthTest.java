@@ -1,8 +1,14 @@
+import com.sun.source.tree.ClassTree;
+import com.sun.source.tree.CompilationUnitTree;
+import com.sun.source.tree.MethodInvocationTree;
+import com.sun.source.tree.MethodTree;
+import com.sun.source.tree.NewClassTree;
+import com.sun.source.tree.Tree;
+import com.sun.source.util.JavacTask;
+import com.sun.source.util.TreePath;
+import com.sun.source.util.TreePathScanner;
+import com.sun.source.util.Trees;
 import java.io.IOException;
-import java.io.PrintWriter;
-import java.io.StringWriter;
-import java.net.URISyntaxException;
-import java.nio.file.Files;
 import java.nio.file.Path;
 import java.util.ArrayList;
 import java.util.HashMap;
@@ -11,60 +17,90 @@ import java.util.Map;
 import java.util.Set;
 import java.util.TreeMap;
 import java.util.TreeSet;
-import java.util.regex.Matcher;
-import java.util.regex.Pattern;
-import java.util.spi.ToolProvider;
+import javax.lang.model.element.Element;
+import javax.tools.JavaCompiler;
+import javax.tools.StandardJavaFileManager;
+import javax.tools.ToolProvider;
 
-/** Rules 4, 8 and 11 of ../shared/LANGUAGE.md, as far as the compiled class shows them: who calls whom. */
+/** Rules 4, 8 and 11 of ../shared/LANGUAGE.md, as far as the compiler sees them in the class: who calls whom. */
 public final class DepthTest {
     private static final Check CHECK = new Check();
+    private static final Path SOURCE = Path.of("src/main/java/HedgePark.java");
     private static final int DEEPEST = 8;
-    private static final Set<String> RECURSIVE = Set.of("HedgePark$Reader.readTruth", "HedgePark$Reader.readBoth",
-            "HedgePark$Reader.readUnit", "HedgePark$Reader.readSum", "HedgePark$Reader.readTerm", "HedgePark$Reader.readAtom");
-    private static final Set<String> LIBRARY = Set.of("java/util/Arrays.fill", "java/lang/System.arraycopy",
-            "java/lang/Long.bitCount", "java/lang/Math.min", "java/lang/Math.max", "java/lang/Math.floorMod",
-            "java/lang/String.length", "java/lang/String.charAt", "java/lang/String.indexOf", "java/lang/Object.new",
-            "java/util/NoSuchElementException.new", "java/lang/IllegalStateException.new",
-            "java/lang/IllegalArgumentException.new", "java/lang/IndexOutOfBoundsException.new");
-    private static final Pattern CLASS = Pattern.compile("^\\S.*class (HedgePark\\S*) .*\\{$");
-    private static final Pattern HEAD = Pattern.compile("^  (?:\\S.* )?([\\w$]+)\\([^)]*\\).*;$");
-    private static final Pattern CALL = Pattern.compile("// (?:Interface)?Method ([^:]*):");
+    private static final Set<String> RECURSIVE = Set.of("HedgePark.Reader.readTruth", "HedgePark.Reader.readBoth",
+            "HedgePark.Reader.readUnit", "HedgePark.Reader.readSum", "HedgePark.Reader.readTerm", "HedgePark.Reader.readAtom");
+    private static final Set<String> LIBRARY = Set.of("java.util.Arrays.fill", "java.lang.System.arraycopy",
+            "java.lang.Long.bitCount", "java.lang.Math.min", "java.lang.Math.max", "java.lang.Math.floorMod",
+            "java.lang.String.length", "java.lang.String.charAt", "java.lang.String.indexOf", "java.lang.Object.new",
+            "java.util.NoSuchElementException.new", "java.lang.IllegalStateException.new",
+            "java.lang.IllegalArgumentException.new", "java.lang.IndexOutOfBoundsException.new");
 
     private static final Map<String, Set<String>> CALLED = new TreeMap<>();
     private static final Map<String, Integer> DEPTH = new HashMap<>();
 
-    private static String disassembled() throws IOException, URISyntaxException {
-        List<String> arguments = new ArrayList<>(List.of("-c", "-p"));
-        Path folder = Path.of(HedgePark.class.getProtectionDomain().getCodeSource().getLocation().toURI());
-        try (var files = Files.list(folder)) {
-            for (Path file : files.toList()) {
-                if (file.getFileName().toString().matches("HedgePark(\\$\\w+)?\\.class")) {
-                    arguments.add(file.toString());
-                }
-            }
+    /** Notes all calls; those of a field's first value are the constructor's. */
+    private static final class Caller extends TreePathScanner<Void, Void> {
+        private final Trees trees;
+        private String method = "";
+
+        Caller(Trees trees) {
+            this.trees = trees;
         }
-        StringWriter text = new StringWriter();
-        PrintWriter out = new PrintWriter(text);
-        ToolProvider.findFirst("javap").orElseThrow().run(out, out, arguments.toArray(new String[0]));
-        return text.toString();
+
+        private static String nameOf(Element method) {
+            String name = method.getSimpleName().toString().replace("<init>", "new");
+            return method.getEnclosingElement() + "." + name;
+        }
+
+        @Override
+        public Void visitClass(ClassTree tree, Void none) {
+            String outer = method;
+            enter(trees.getElement(getCurrentPath()) + ".new");
+            super.visitClass(tree, none);
+            method = outer;
+            return null;
+        }
+
+        @Override
+        public Void visitMethod(MethodTree tree, Void none) {
+            String outer = method;
+            enter(nameOf(trees.getElement(getCurrentPath())));
+            super.visitMethod(tree, none);
+            method = outer;
+            return null;
+        }
+
+        private void enter(String name) {
+            method = name;
+            CALLED.computeIfAbsent(name, n -> new TreeSet<>());
+        }
+
+        @Override
+        public Void visitMethodInvocation(MethodInvocationTree tree, Void none) {
+            note(tree.getMethodSelect());
+            return super.visitMethodInvocation(tree, none);
+        }
+
+        @Override
+        public Void visitNewClass(NewClassTree tree, Void none) {
+            note(tree);
+            return super.visitNewClass(tree, none);
+        }
+
+        private void note(Tree called) {
+            TreePath path = called == getCurrentPath().getLeaf() ? getCurrentPath() : new TreePath(getCurrentPath(), called);
+            CALLED.get(method).add(nameOf(trees.getElement(path)));
+        }
     }
 
-    private static void readCalls(String text) {
-        String owner = "";
-        String method = "";
-        for (String line : text.split("\n")) {
-            Matcher named = CLASS.matcher(line);
-            Matcher head = HEAD.matcher(line);
-            Matcher call = CALL.matcher(line);
-            if (named.matches()) {
-                owner = named.group(1);
-            } else if (head.matches()) {
-                method = owner + "." + (owner.equals(head.group(1)) ? "new" : head.group(1));
-                CALLED.put(method, new TreeSet<>());
-            } else if (line.contains("invoke") && call.find()) {
-                String name = call.group(1).replace("\"<init>\"", "new");
-                CALLED.get(method).add(name.contains(".") ? name : owner + "." + name);
-            }
+    private static void readCalls() throws IOException {
+        JavaCompiler javac = ToolProvider.getSystemJavaCompiler();
+        try (StandardJavaFileManager files = javac.getStandardFileManager(null, null, null)) {
+            JavacTask task = (JavacTask) javac.getTask(null, files, null, List.of("-proc:none"), null,
+                    files.getJavaFileObjects(SOURCE));
+            Iterable<? extends CompilationUnitTree> units = task.parse();
+            task.analyze();
+            new Caller(Trees.instance(task)).scan(units, null);
         }
     }
 
@@ -103,8 +139,8 @@ public final class DepthTest {
         return deepest;
     }
 
-    public static void main(String[] args) throws IOException, URISyntaxException {
-        readCalls(disassembled());
+    public static void main(String[] args) throws IOException {
+        readCalls();
         CHECK.due("methods are seen", CALLED.size() > 100 ? 1 : 0, 1);
         Set<String> recursive = new TreeSet<>();
         Set<String> library = new TreeSet<>();
